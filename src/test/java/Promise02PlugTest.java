@@ -5,6 +5,7 @@ final class Promise02PlugTest {
         numbers(check);
         wrongInputs(check);
         freshUnit(check);
+        freshAnswersAndQueue(check);
         check.end();
     }
 
@@ -62,6 +63,32 @@ final class Promise02PlugTest {
         check.is("nor is its key held back", x.unit(0, 2), 4);
         x.frame();
         check.is("it has no contract", x.container(0, 0, 2), 0);
+    }
+
+    /** Serials 1 and 3 have the same windows twice, serial 0 has none of theirs. */
+    private static void freshAnswersAndQueue(Check check) {
+        SharedFibre x = new SharedFibre();
+        x.plug(1, 300);
+        x.plug(3, 300);
+        x.discover();
+        x.frame();
+        x.unplug(0);
+        x.plug(0, 300);
+        check.is("how often one plugged in again answered", x.unit(0, 6), 0);
+        x.discover();
+        x.frame();
+        x.contract(0, 0, 1, 0, 1, 1);
+        x.send(0, 0, 2);
+        x.spoil(0);
+        x.frame();
+        x.unplug(0);
+        x.plug(0, 300);
+        x.discover();
+        x.frame();
+        x.contract(0, 0, 1, 0, 1, 1);
+        x.send(0, 0, 1);
+        check.is("a datagram behind one that was hurt before", x.frame(), 1);
+        check.is("none is lost", x.count(1), 0);
     }
 
     private static SharedFibre usedAndUnplugged() {

@@ -2,6 +2,7 @@
 final class Promise08DownTest {
     private static final int KEY_0_FRAME_2 = 1013911573;
     private static final int KEY_0_FRAME_3 = -627001312;
+    private static final int KEY_4_FRAME_3 = 2124485375;
     private static final int KEY_7_FRAME_3 = -1720613795;
     private static final int KEY_7_FRAME_4 = 1173541799;
     private static final int KEY_7_FRAME_5 = -466660206;
@@ -12,6 +13,7 @@ final class Promise08DownTest {
         words(check);
         spoiltWord(check);
         frameNumbers(check);
+        shiftWithoutSign(check);
         check.end();
     }
 
@@ -72,5 +74,15 @@ final class Promise08DownTest {
         check.is("not in a quiet frame", x.unit(0, 5), 0);
         x.frame();
         check.is("both count as frames", x.unit(0, 5), 5 ^ KEY_0_FRAME_3);
+    }
+
+    /** The first product of key 4 is negative as an int. */
+    private static void shiftWithoutSign(Check check) {
+        SharedFibre x = Fibres.working(1);
+        x.key(0, 4);
+        x.frame();
+        x.down(0, 123456789);
+        x.frame();
+        check.is("as what it was sent", x.unit(0, 5), 123456789 ^ KEY_4_FRAME_3);
     }
 }

@@ -4,7 +4,9 @@ final class Promise12FrameTest {
         Check check = new Check();
         answers(check);
         fixedAndAssured(check);
+        assuredBeforeWeight(check);
         byWeight(check);
+        spareOfOneMap(check);
         mostAndReported(check);
         errorsBeforeTheMap(check);
         reportsStay(check);
@@ -57,6 +59,42 @@ final class Promise12FrameTest {
         check.is("what is reported comes", x.frame(), 1);
         check.is("10 are given", x.container(0, 0, 2), 10);
         check.is("10 are reported", x.container(0, 0, 1), 10);
+    }
+
+    /** 2 fixed and 10 assured against one of a weight of 9, which both want all they can get. */
+    private static void assuredBeforeWeight(Check check) {
+        SharedFibre x = Fibres.working(2);
+        x.contract(0, 0, 2, 10, 60, 1);
+        x.contract(1, 0, 0, 0, 60, 9);
+        for (int i = 0; i < 4; i++) {
+            x.send(0, 0, 20);
+            x.send(1, 0, 20);
+        }
+        Fibres.frames(x, 2);
+        // 46 spare blocks: 4 and 36 make a tie, then one and five.
+        check.is("fixed, assured and spare", x.container(0, 0, 2), 2 + 10 + 5);
+        check.is("spare alone", x.container(1, 0, 2), 41);
+    }
+
+    /** What was spare in one map does not count in the next. */
+    private static void spareOfOneMap(Check check) {
+        SharedFibre x = Fibres.working(2);
+        x.contract(0, 0, 0, 0, 60, 1);
+        x.contract(1, 0, 0, 0, 60, 1);
+        sendFour(x, 0);
+        Fibres.frames(x, 2);
+        check.is("all for the one that wants", x.container(0, 0, 2), 58);
+        sendFour(x, 0);
+        sendFour(x, 1);
+        Fibres.frames(x, 2);
+        check.is("half of it", x.container(0, 0, 2), 29);
+        check.is("the other half", x.container(1, 0, 2), 29);
+    }
+
+    private static void sendFour(SharedFibre x, int unit) {
+        for (int i = 0; i < 4; i++) {
+            x.send(unit, 0, 20);
+        }
     }
 
     /** Three that want everything, by weights 1, 2 and 3, and fixed blocks that are no spare ones. */
