@@ -1,3 +1,5 @@
+import java.util.List;
+
 /** Counts and prints the answers that are not the ones that are due. */
 final class Check {
     private int wrong = 0;
@@ -5,6 +7,12 @@ final class Check {
     void is(String call, long got, long due) {
         if (got != due) {
             tell(call + " answered " + got + ", due is " + due);
+        }
+    }
+
+    void same(String what, List<Long> got, List<Long> due) {
+        if (!got.equals(due)) {
+            tell(what + " is " + got + ", due is " + due);
         }
     }
 

@@ -1,16 +1,22 @@
 import java.util.Random;
 import java.util.function.IntSupplier;
 
-/** Random runs of calls, wrong ones among them: the class and the plain model answer the same throughout. */
+/**
+ * Random runs of calls, wrong ones among them: the class and the plain model answer the same throughout. Each run has
+ * changes (with some questions between them) and then questions till all is asked, 512 calls at most: what later ones
+ * answer is free.
+ */
 final class RandomRunsTest {
-    private static final int RUNS = 500;
-    private static final int CALLS = 300;
+    private static final int RUNS = 3000;
+    private static final int CALLS = 512;
+    private static final int MOST_CHANGES = 400;
 
     private final Check check;
     private final Random random;
     private final SharedFibre x = new SharedFibre();
     private final PlainModel y = new PlainModel();
     private final int seed;
+    private int calls = 0;
 
     private RandomRunsTest(Check check, int seed) {
         this.check = check;
@@ -22,10 +28,11 @@ final class RandomRunsTest {
         Check check = new Check();
         for (int seed = 0; seed < RUNS; seed++) {
             RandomRunsTest run = new RandomRunsTest(check, seed);
-            for (int i = 0; i < CALLS; i++) {
+            int changes = run.from(1, MOST_CHANGES);
+            while (run.calls < changes) {
                 run.oneCall();
-                run.compareAll();
             }
+            run.askAll();
         }
         check.end();
     }
@@ -37,13 +44,13 @@ final class RandomRunsTest {
     /** Mostly low .. high, now and then one beyond an end. */
     private int about(int low, int high) {
         int dice = random.nextInt(40);
-        return dice == 0 ? low - 1 : dice == 1 ? high + 1 : from(low, high);
+        return dice == 0 || low > high ? low - 1 : dice == 1 ? high + 1 : from(low, high);
     }
 
     private void oneCall() {
         int unit = random.nextInt(3) == 0 ? about(0, 4) : from(0, 2);
         int box = about(0, 1);
-        switch (random.nextInt(20)) {
+        switch (random.nextInt(22)) {
             case 0, 1 -> plug();
             case 2 -> {
                 if (random.nextInt(4) == 0) {
@@ -71,6 +78,7 @@ final class RandomRunsTest {
                 same("feeder", () -> run(() -> x.feeder(feeder, cut)), () -> run(() -> y.feeder(feeder, cut)));
             }
             case 15 -> same("discover", () -> run(x::discover), () -> run(y::discover));
+            case 16, 17 -> question(unit, box);
             default -> same("frame", x::frame, y::frame);
         }
     }
@@ -98,33 +106,37 @@ final class RandomRunsTest {
         }
     }
 
-    /** Asks all that can be asked, and at times also just beyond the ends. */
-    private void compareAll() {
-        int beyond = random.nextInt(50) == 0 ? 1 : 0;
-        for (int u = -beyond; u < 5 + beyond; u++) {
-            int unit = u;
-            for (int w = -beyond; w < 7 + beyond; w++) {
-                int what = w;
-                same("unit " + what, () -> x.unit(unit, what), () -> y.unit(unit, what));
-            }
-            for (int b = -beyond; b < 2 + beyond; b++) {
-                int box = b;
-                for (int w = -beyond; w < 4 + beyond; w++) {
-                    int what = w;
-                    same("container " + what, () -> x.container(unit, box, what), () -> y.container(unit, box, what));
-                }
-            }
+    private void question(int unit, int box) {
+        int what = about(0, 6);
+        int k = about(0, y.count(0) - 1);
+        switch (random.nextInt(4)) {
+            case 0 -> same("unit " + what, () -> x.unit(unit, what), () -> y.unit(unit, what));
+            case 1 -> same("container " + what, () -> x.container(unit, box, what), () -> y.container(unit, box, what));
+            case 2 -> same("came " + what, () -> x.came(k, what), () -> y.came(k, what));
+            default -> same("count " + what, () -> x.count(what), () -> y.count(what));
         }
-        for (int w = -beyond; w < 7 + beyond; w++) {
-            int which = w;
+    }
+
+    private void askAll() {
+        for (int i = 0; i < 7; i++) {
+            int which = i;
             same("count " + which, () -> x.count(which), () -> y.count(which));
         }
-        for (int i = -beyond; i < x.count(0) + beyond; i++) {
-            int k = i;
-            for (int w = -beyond; w < 4 + beyond; w++) {
-                int what = w;
-                same("came " + what, () -> x.came(k, what), () -> y.came(k, what));
-            }
+        for (int i = 0; i < 35; i++) {
+            int unit = i % 5;
+            int what = i / 5;
+            same("unit " + what, () -> x.unit(unit, what), () -> y.unit(unit, what));
+        }
+        for (int i = 0; i < 40; i++) {
+            int unit = i % 5;
+            int box = i / 5 % 2;
+            int what = i / 10;
+            same("container " + what, () -> x.container(unit, box, what), () -> y.container(unit, box, what));
+        }
+        for (int i = 4 * y.count(0) - 1; i >= 0; i--) {
+            int k = i / 4;
+            int what = i % 4;
+            same("came " + what, () -> x.came(k, what), () -> y.came(k, what));
         }
     }
 
@@ -134,23 +146,9 @@ final class RandomRunsTest {
     }
 
     private void same(String call, IntSupplier got, IntSupplier due) {
-        long isDue = answer(due);
-        long isGot = answer(got);
-        if (isGot != isDue) {
-            check.is("run " + seed + ": " + call, isGot, isDue);
-        }
-    }
-
-    /** The answer, or a number beyond the ints that stands for the exception thrown. */
-    private static long answer(IntSupplier body) {
-        try {
-            return body.getAsInt();
-        } catch (IllegalArgumentException e) {
-            return 1L << 40;
-        } catch (IllegalStateException e) {
-            return 2L << 40;
-        } catch (IndexOutOfBoundsException e) {
-            return 3L << 40;
+        if (calls < CALLS) {
+            calls++;
+            check.is("run " + seed + ", call " + calls + ": " + call, Shown.answer(got), Shown.answer(due));
         }
     }
 }
