@@ -10,6 +10,12 @@ final class Check {
         }
     }
 
+    void text(String what, String got, String due) {
+        if (!got.equals(due)) {
+            tell(what + " is " + got + ", due is " + due);
+        }
+    }
+
     void same(String what, List<Long> got, List<Long> due) {
         if (!got.equals(due)) {
             tell(what + " is " + got + ", due is " + due);
